@@ -17,8 +17,10 @@ public final class FaceTests {
         "int state()", "boolean overwrite(int,int)", "int memory(int)", "int register(int)", "int pc()",
         "int shows()", "int shown(int)");
     private static final String[] FORBIDDEN = {
-        "throw", "throws", "try", "catch", "finally", "synchronized", "assert", "package", "->", "::", "Exact", "System",
-        "Random", "Thread", "hashCode", "protected", "static \\{"};
+        "\\b(throw|throws|try|catch|finally|synchronized|assert|package|native|volatile)\\b", "::", "Exact\\b",
+        "\\b(Random|Thread|Runtime)\\b", "\\bhashCode\\b", "\\bstatic\\s*\\{", "\\bSystem\\b(?!\\.arraycopy\\b)"};
+    private static final String ALLOWED_IMPORT = "import java\\.util\\.(Arrays|ArrayList|List|Iterator);";
+    private static final String SWITCH_ARROW = "(\\bcase\\b[^;:{}]*?|\\bdefault\\s*)->";
     private static int wrong = 0;
 
     private static void need(boolean fine, String what) {
@@ -40,7 +42,7 @@ public final class FaceTests {
         Set<String> open = new TreeSet<>();
         Set<String> openNames = new TreeSet<>();
         for (Method m : JumpGuard.class.getDeclaredMethods()) {
-            if (!Modifier.isPrivate(m.getModifiers())) {
+            if (!m.isSynthetic() && !Modifier.isPrivate(m.getModifiers())) {
                 need(Modifier.isPublic(m.getModifiers()) && !Modifier.isStatic(m.getModifiers()), "not public: " + m);
                 open.add(formOf(m));
                 openNames.add(m.getName());
@@ -60,7 +62,7 @@ public final class FaceTests {
         need(makers.length == 1 && makers[0].getParameterCount() == 0 && Modifier.isPublic(makers[0].getModifiers()),
             "the constructor is not the one of the document");
         for (Field f : JumpGuard.class.getDeclaredFields()) {
-            need(Modifier.isPrivate(f.getModifiers()), "a field that is not private: " + f);
+            need(f.isSynthetic() || Modifier.isPrivate(f.getModifiers()), "a field that is not private: " + f);
             need(Modifier.isFinal(f.getModifiers()) || !Modifier.isStatic(f.getModifiers()), "static state: " + f);
         }
         for (Class<?> inside : JumpGuard.class.getDeclaredClasses()) {
@@ -72,12 +74,12 @@ public final class FaceTests {
     private static void checkWords() throws IOException {
         String text = Files.readString(Path.of("src/main/java/JumpGuard.java"));
         String code = text.replaceAll("(?s)/\\*.*?\\*/", " ").replaceAll("//[^\n]*", " ");
-        for (String word : FORBIDDEN) {
-            String edge = Character.isLetter(word.charAt(0)) ? "\\b" : "";
-            need(!Pattern.compile(edge + word).matcher(code).find(), "the program has '" + word + "'");
+        for (String form : FORBIDDEN) {
+            need(!Pattern.compile(form).matcher(code).find(), "the program has what matches " + form);
         }
-        String others = code.replace("import java.util.Arrays;", " ");
-        need(!Pattern.compile("\\bimport\\b|\\bjava\\.").matcher(others).find(), "the program imports more than Arrays");
+        String others = code.replaceAll(ALLOWED_IMPORT, " ");
+        need(!Pattern.compile("\\bimport\\b|\\bjava\\.").matcher(others).find(), "an import that the rules do not list");
+        need(!code.replaceAll(SWITCH_ARROW, " ").contains("->"), "the program has a lambda");
     }
 
     public static void main(String[] args) throws IOException {
