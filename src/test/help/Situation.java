@@ -41,7 +41,8 @@ record Situation(String name, int length, boolean guarded, int state, int edges,
     /** It sets registers and cells, shows 7, 14 and the target, and jumps to its instruction 9 by way of cell 5. */
     static Subject worker() {
         Subject x = Subject.of(
-            1, 0, 7, 3, 0, 2, 5, 0, 0, 4, 0, 0, 5, 0, 0, 9, 1, 9, 3, 1, 5, 2, 3, 5, 8, 3, 0, 5, 3, 0, 7, 2, 11, 0, 0, 0);
+            1, 0, 7, 3, 0, 2, 5, 0, 0, 4, 0, 0, 5, 0, 0, 9, 1, 9,
+            3, 1, 5, 2, 3, 5, 8, 3, 0, 5, 3, 0, 7, 2, 11, 0, 0, 0);
         x.allow(8, 9).is(true);
         return x.allow(8, 2).is(true);
     }

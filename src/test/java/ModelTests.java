@@ -11,7 +11,8 @@ import java.util.TreeSet;
 public final class ModelTests {
     private static final int RUNS = 3000;
     private static final int CALLS = 512;
-    private static final int[] ODD = {Integer.MIN_VALUE, Integer.MAX_VALUE, -9, -2, -1, 0, 3, 4, 8, 15, 16, 23, 24, 25, 72};
+    private static final int[] ODD = {
+        Integer.MIN_VALUE, Integer.MAX_VALUE, -9, -2, -1, 0, 3, 4, 8, 15, 16, 23, 24, 25, 72};
 
     /** The document once more: classes and places are worked out from the edges when they are asked. */
     private static final class Model {

@@ -305,6 +305,25 @@ public final class SourceBoundaryTests {
         x.label(23).is(1);
     }
 
+    private static void allowCountsAllSinceTheFirst() {
+        Report.sentence("Promise 3", "there are 48: those before an add, a protect or a start count too");
+        Subject x = Subject.of(8, 0, 0, 8, 0, 0, 8, 0, 0);
+        for (int target = 0; target < 24; target++) {
+            if (target > 2) {
+                x.add(0, 0, 0).is(target);
+            }
+            x.allow(0, target).is(true);
+            x.allow(2, 24).is(false);
+            x.allow(1, target).is(true);
+            x.protect();
+            x.start(true).is(true);
+        }
+        for (int target = 0; target < 24; target++) {
+            x.allow(2, target).is(false);
+        }
+        x.state().is(0);
+    }
+
     private static void allowEndsGuarding() {
         Report.sentence("Promise 3", "If it was done, there is no guarded program any more");
         for (Situation s : Situation.guardedWithRoom()) {
@@ -616,6 +635,7 @@ public final class SourceBoundaryTests {
         allowWantsANewPair();
         allowIsFull();
         allowCountsNoRefused();
+        allowCountsAllSinceTheFirst();
         allowEndsGuarding();
         protectCounts();
         protectWantsASource();

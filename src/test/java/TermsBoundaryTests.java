@@ -152,8 +152,30 @@ public final class TermsBoundaryTests {
         }
     }
 
+    private static void guardKnowsLongPrograms() {
+        Report.sentence(WHERE, "an instruction of the program that is a label: also far behind address 23");
+        Subject x = Subject.of(2, 0, 0);
+        for (int i = 1; i < 24; i++) {
+            x.add(8, 0, 0).is(i);
+            x.allow(i, i).is(true);
+        }
+        x.allow(1, 0).is(true);
+        x.allow(1, 23).is(true);
+        x.protect().is(71);
+        for (int to : new int[] {0, 1, 2, 23, 24, 65, 67, 68, 69, 70, 71, 72, 73}) {
+            boolean fine = to == 0 || to == 2 || to == 68;
+            x.start(true).is(true);
+            x.overwrite(0, to).is(true);
+            x.run(5).is(fine ? 5 : 4);
+            x.state().is(fine ? 0 : 2);
+            x.pc().is(fine ? to : 3);
+            x.run(1000).is(fine ? 1000 : 0);
+            x.state().is(fine ? 0 : 2);
+        }
+    }
+
     private static void guardOfNoTargetNeverHolds() {
-        Report.sentence(WHERE, "a guard with its register and the number of its targets' class (0 if it has no target)");
+        Report.sentence(WHERE, "a guard with .. the number of its targets' class (0 if it has no target)");
         Subject x = Subject.of(2, 3, 0, 8, 3, 0, 8, 3, 0, 0, 0, 0);
         x.allow(2, 3).is(true);
         x.protect().is(7);
@@ -164,6 +186,24 @@ public final class TermsBoundaryTests {
             x.run(9).is(2);
             x.state().is(2);
             x.pc().is(1);
+        }
+    }
+
+    private static void guardHasNumberOfJoinedClass() {
+        Report.sentence(WHERE, "the number of its targets' class: also where classes were joined later");
+        Subject x = Subject.filled(24, 8, 0, 0);
+        x.allow(0, 22).is(true);
+        x.allow(23, 21).is(true);
+        x.allow(12, 20).is(true);
+        x.allow(11, 22).is(true);
+        x.allow(11, 21).is(true);
+        x.allow(11, 3).is(true);
+        x.protect().is(52);
+        for (int i = 0; i < 24; i++) {
+            int label = x.label(i).answer();
+            int guard = x.place(i).answer() + (label > 0 ? 1 : 0);
+            x.guarded(guard, 0).is(11);
+            x.guarded(guard, 2).is(i == 0 || i == 23 || i == 11 ? 4 : i == 12 ? 21 : 0);
         }
     }
 
@@ -214,7 +254,7 @@ public final class TermsBoundaryTests {
     }
 
     private static void edgesAreFortyEight() {
-        Report.sentence(WHERE, "EDGES are pairs of an indirect jump of the source and an instruction of the source (its TARGET), at most 48.");
+        Report.sentence(WHERE, "EDGES are pairs .., at most 48.");
         Subject x = Subject.of(8, 0, 0, 8, 1, 0, 8, 2, 0);
         for (int i = 3; i < 24; i++) {
             x.add(0, 0, 0).is(i);
@@ -263,7 +303,7 @@ public final class TermsBoundaryTests {
     }
 
     private static void chainsJoinClasses() {
-        Report.sentence(WHERE, "so targets that share a jump, or are joined by a chain of such, are in one class, others are not");
+        Report.sentence(WHERE, "targets that share a jump, or are joined by a chain of such .., others are not");
         Subject x = Subject.filled(24, 8, 0, 0);
         for (int i = 0; i < 23; i++) {
             x.allow(i, i).is(true);
@@ -323,7 +363,7 @@ public final class TermsBoundaryTests {
     }
 
     private static void guardedProgramInOrder() {
-        Report.sentence(WHERE, "THE GUARDED PROGRAM has for each instruction of the source, in order: a label (b is 0), then a guard, then the instruction");
+        Report.sentence(WHERE, "in order: a label .. (b is 0) ..; then .. a guard ..; then the instruction");
         Subject x = Subject.of(1, 3, 99, 8, 2, 98, 8, 1, 97, 0, 96, 95);
         x.allow(1, 2).is(true);
         x.allow(1, 3).is(true);
@@ -351,7 +391,7 @@ public final class TermsBoundaryTests {
     }
 
     private static void placeIsTheFirstPut() {
-        Report.sentence(WHERE, "The PLACE of an instruction of the source is where the first of these stands that were put for it.");
+        Report.sentence(WHERE, "The PLACE .. is where the first of these stands that were put for it.");
         Subject x = Subject.of(5, 0, 0, 8, 0, 0, 5, 0, 0, 8, 0, 0, 0, 0, 0);
         x.allow(1, 2).is(true);
         x.allow(1, 3).is(true);
@@ -378,7 +418,7 @@ public final class TermsBoundaryTests {
     }
 
     private static void goesToPlaceThatSharesLabel() {
-        Report.sentence(WHERE, "it goes to a place declared for it (or one that shares a label with it), or the program stops");
+        Report.sentence(WHERE, "a place declared for it (or one that shares a label with it), or the program stops");
         Subject x = Subject.of(2, 0, 0, 8, 0, 0, 8, 1, 0, 0, 0, 0, 0, 0, 0, 0, 0, 0);
         x.allow(1, 3).is(true);
         x.allow(2, 3).is(true);
@@ -403,7 +443,9 @@ public final class TermsBoundaryTests {
         goesOnAtAddress();
         goesAstray();
         guardWantsLabelOfItsNumber();
+        guardKnowsLongPrograms();
         guardOfNoTargetNeverHolds();
+        guardHasNumberOfJoinedClass();
         goesOnAtNext();
         addressesCountFromZero();
         sourceHasTwentyFour();
