@@ -17,7 +17,7 @@ public final class FaceTests {
         "int state()", "boolean overwrite(int,int)", "int memory(int)", "int register(int)", "int pc()",
         "int shows()", "int shown(int)");
     private static final String[] FORBIDDEN = {
-        "\\b(throw|throws|try|catch|finally|synchronized|assert|package|native|volatile)\\b", "::", "Exact\\b",
+        "\\b(throw|throws|try|catch|finally|synchronized|assert|package)\\b", "::", "Exact\\b",
         "\\b(Random|Thread|Runtime|hashCode)\\b", "\\bstatic\\s*\\{", "\\bSystem\\b(?!\\.arraycopy\\b)"};
     private static final String ALLOWED_IMPORT = "import java\\.util\\.(Arrays|ArrayList|List|Iterator);";
     private static final String SWITCH_ARROW = "(\\bcase\\b[^;:{}]*?|\\bdefault\\s*)->";
