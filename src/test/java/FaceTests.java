@@ -21,6 +21,7 @@ public final class FaceTests {
         "\\b(Random|Thread|Runtime|hashCode)\\b", "\\bstatic\\s*\\{", "\\bSystem\\b(?!\\.arraycopy\\b)"};
     private static final String ALLOWED_IMPORT = "import java\\.util\\.(Arrays|ArrayList|List|Iterator);";
     private static final String SWITCH_ARROW = "(\\bcase\\b[^;:{}]*?|\\bdefault\\s*)->";
+    private static final int MOST_PARAMETERS = 7;
     private static int wrong = 0;
 
     private static void need(boolean fine, String what) {
@@ -63,11 +64,21 @@ public final class FaceTests {
             "the constructor is not the one of the document");
         for (Field f : JumpGuard.class.getDeclaredFields()) {
             need(f.isSynthetic() || Modifier.isPrivate(f.getModifiers()), "a field that is not private: " + f);
+        }
+        checkInside(JumpGuard.class);
+        for (Class<?> c : JumpGuard.class.getDeclaredClasses()) {
+            need(Modifier.isStatic(c.getModifiers()), "not static: " + c);
+            need(!Modifier.isPublic(c.getModifiers()) && !Modifier.isProtected(c.getModifiers()), "not closed: " + c);
+            checkInside(c);
+        }
+    }
+
+    private static void checkInside(Class<?> c) {
+        for (Field f : c.getDeclaredFields()) {
             need(Modifier.isFinal(f.getModifiers()) || !Modifier.isStatic(f.getModifiers()), "static state: " + f);
         }
-        for (Class<?> inside : JumpGuard.class.getDeclaredClasses()) {
-            need(Modifier.isStatic(inside.getModifiers()), "not static: " + inside);
-            need(!Modifier.isPublic(inside.getModifiers()), "public: " + inside);
+        for (Method m : c.getDeclaredMethods()) {
+            need(m.getParameterCount() <= MOST_PARAMETERS, "too many parameters: " + m);
         }
     }
 

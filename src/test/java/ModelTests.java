@@ -334,7 +334,7 @@ public final class ModelTests {
             case 4 -> due("label(" + i + ")", x.label(i), m.label(i));
             case 5 -> due("state()", x.state(), m.state());
             case 6 -> due("memory(" + i + ")", x.memory(i), m.memory(i));
-            case 7 -> due("register(" + field + ")", x.register(field), m.register(field));
+            case 7 -> due("register(" + i % 5 + ")", x.register(i % 5), m.register(i % 5));
             case 8 -> due("pc()", x.pc(), m.pc());
             case 9 -> due("shows()", x.shows(), m.shows());
             default -> due("shown(" + i % 9 + ")", x.shown(i % 9), m.shown(i % 9));
@@ -382,7 +382,7 @@ public final class ModelTests {
                     case 1 -> allow();
                     default -> protect();
                 }
-            } else if (m.running == null || upTo(m.state != 0 ? 3 : 12) == 0) {
+            } else if (upTo(m.running == null ? 2 : m.state != 0 ? 3 : 12) == 0) {
                 if (m.guarded == null && upTo(3) == 0) {
                     protect();
                 }
@@ -405,8 +405,8 @@ public final class ModelTests {
         }
         System.out.println("after run: idle " + ends[0] + ", runs " + ends[1] + ", halted " + ends[2] + ", violation "
             + ends[3] + ", astray " + ends[4] + "; joined labels " + joined + ", full edges " + fullEdges);
-        boolean thin = ends[1] < 1000 || ends[2] < 1000 || ends[3] < 1000 || ends[4] < 300 || joined < 1000
-            || fullEdges < 50;
+        boolean thin = ends[0] < 1000 || ends[1] < 1000 || ends[2] < 1000 || ends[3] < 1000 || ends[4] < 300
+            || joined < 1000 || fullEdges < 50;
         if (wrong == 0 && thin) {
             System.out.println("the runs no longer reach what they are meant to test");
         }
